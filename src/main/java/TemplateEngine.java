@@ -131,16 +131,16 @@ public final class TemplateEngine {
         if (k < 0 || k >= TEMPLATES) {
             throw new IndexOutOfBoundsException("no TEMPLATE 0 .. 3");
         }
-        Compiler compiler = new Compiler(line.copyOf(0, line.length));
+        TemplateReader reader = new TemplateReader(line.copyOf(0, line.length));
         line.clear();
-        compiler.takeApart();
-        fault = compiler.fault;
+        reader.takeApart();
+        fault = reader.fault;
         if (fault != NO_FAULT) {
             throw new IllegalArgumentException("the template has a FAULT");
         }
-        templates[k] = compiler.root;
+        templates[k] = reader.root;
         threw--;
-        return compiler.tags;
+        return reader.tags;
     }
 
     public int errorAt() {
@@ -285,22 +285,16 @@ public final class TemplateEngine {
         private void appendEscaped(Text other) {
             for (int i = 0; i < other.length; i++) {
                 char c = other.chars[i];
-                switch (c) {
-                    case '&':
-                        appendWord("&amp;");
-                        break;
-                    case '<':
-                        appendWord("&lt;");
-                        break;
-                    case '>':
-                        appendWord("&gt;");
-                        break;
-                    case '"':
-                        appendWord("&quot;");
-                        break;
-                    default:
-                        append(c);
-                        break;
+                if (c == '&') {
+                    appendWord("&amp;");
+                } else if (c == '<') {
+                    appendWord("&lt;");
+                } else if (c == '>') {
+                    appendWord("&gt;");
+                } else if (c == '"') {
+                    appendWord("&quot;");
+                } else {
+                    append(c);
                 }
             }
         }
@@ -542,7 +536,7 @@ public final class TemplateEngine {
     }
 
     /** Takes one template's text apart. */
-    private static final class Compiler {
+    private static final class TemplateReader {
         private static final Helper[] HELPERS = Helper.values();
 
         private final Text source;
@@ -559,7 +553,7 @@ public final class TemplateEngine {
         private int end;
         private final long[] steps = new long[MOST_TYPED];
 
-        private Compiler(Text source) {
+        private TemplateReader(Text source) {
             this.source = source;
             open[0] = root;
         }

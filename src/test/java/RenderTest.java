@@ -185,6 +185,7 @@ public final class RenderTest {
         shows("{{#with up t}}{{#with up \"in\"}}{{{../this}}}{{this}}{{up \"q\"}}{{../../n}}{{{../this}}}{{/with}}{{{this}}}{{/with}}",
                 "X<YINQ7X<YX<Y");
         shows("{{#with add 1 2}}{{add 4 5}}{{#if not x}}{{not x}}{{this}}{{/if}}{{this}}{{/with}}", "9133");
+        shows("{{#with up t}}{{{up \"in\"}}}{{{add 1 2}}}{{{this}}}{{/with}}", "IN3X<Y");
         Bench b = sample();
         b.compile(1, "{{up \"zz\"}}{{#with len this}}{{this}}{{../this}}{{/with}}");
         Bench.due("over a partial", b.render("{{#with up t}}{{> b}}{{{this}}}{{/with}}", 0), "ZZ3X&lt;YX<Y");
