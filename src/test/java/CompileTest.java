@@ -16,6 +16,7 @@ public final class CompileTest {
         blanks();
         rawTagsAreValues();
         remarks();
+        blocksBegin();
         elseOnce();
         endsFit();
         partialLetters();
@@ -237,6 +238,19 @@ public final class CompileTest {
         Faults.faultless("{{!}}", "{{!!}}", "{{! }}", "{{!}}}}", "{{!}a}}", "{{!\"}}", "{{!{}}", "{{!{{}}", "{{!{{{}}", "{{!\0\177}}",
                 "{{!#if a}}", "{{!/if}}", "{{!else}}", "{{!> e}}", "{{!" + Bench.times(195, "x") + "}}");
         Faults.faultyAtBegin("{{a!}}", "{{ !}}", "{{!");
+    }
+
+    private static void blocksBegin() {
+        Bench.sentence("#if EXPR, #each EXPR, #with EXPR: a block begins.");
+        for (String sort : SORTS) {
+            Faults.fault(begin(sort) + end(sort), Faults.NONE);
+            Faults.fault("{{#" + sort + " " + sort + "}}" + end(sort), Faults.NONE);
+            Faults.faultyAtBegin("{{#" + sort + "}}" + end(sort), "{{#" + sort + " }}" + end(sort), "{{#" + sort + " a b}}" + end(sort),
+                    "{{#" + sort + "s a}}" + end(sort), "{{#" + sort.toUpperCase(java.util.Locale.ROOT) + " a}}" + end(sort),
+                    "{{##" + sort + " a}}" + end(sort), "{{" + sort + " a}}" + end(sort), "{{{#" + sort + " a}}}" + end(sort));
+            Faults.fault("{{" + sort + "}}", Faults.NONE);
+        }
+        Faults.faultyAtBegin("{{#}}", "{{# }}", "{{#a}}", "{{# a}}", "{{#up a}}", "{{#i a}}", "{{#unless a}}{{/unless}}");
     }
 
     private static void elseOnce() {

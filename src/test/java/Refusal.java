@@ -60,7 +60,8 @@ final class Refusal {
         for (int what : new int[] {0, 2, 3, 4}) {
             answers.add(Bench.answerOf(() -> b.engine().count(what)));
         }
-        for (int x = -1; x <= MOST_DATA; x++) {
+        int data = b.engine().count(0);
+        for (int x = -1; x <= data; x++) {
             int place = x;
             answers.add(Bench.answerOf(() -> b.engine().kind(place)));
             answers.add(Bench.answerOf(() -> b.engine().size(place)));

@@ -20,6 +20,7 @@ public final class RefusalTest {
         compileChangesNothing();
         faultChangesNothingElse();
         renderChangesNothing();
+        renderInBlocksChangesNothing();
         longRenderChangesNothing();
         askingChangesNothing();
         refusedAgainAndAgain();
@@ -185,11 +186,23 @@ public final class RefusalTest {
         Refusal.due("no such DATA", RefusalTest::rich, e -> e.render(0, -1), Bench.NO_ELEMENT);
         Refusal.due("no such partial", RefusalTest::rich, e -> e.render(1, MAP), Bench.NO_ELEMENT);
         Refusal.due("a 4th TEMPLATE", RefusalTest::rich, e -> e.render(2, MAP), Bench.BAD_DEPTH);
-        Bench.Steps deep = richAnd(b -> {
-            b.engine().text();
-            b.compile(3, "{{#each b}}{{#with up this}}{{#if @index}}{{> c}}{{/if}}{{/with}}{{/each}}");
-        });
-        Refusal.due("a 4th TEMPLATE, in blocks", deep, e -> e.render(3, MAP), Bench.BAD_DEPTH);
+    }
+
+    /** What was under way when it threw is not under way in the next render: turns, CONTEXTS and TEMPLATES. */
+    private static void renderInBlocksChangesNothing() {
+        Bench.sentence(NOTHING_CHANGES);
+        String[][] thrown = {{"{{#each this}}{{#with up this}}{{> d}}{{/with}}{{/each}}", Bench.NO_ELEMENT},
+            {"{{#each this}}{{#if @index}}{{#with ../this}}{{> b}}{{/with}}{{/if}}{{/each}}", Bench.BAD_DEPTH}};
+        for (String[] pair : thrown) {
+            Bench.Steps before = b -> {
+                int list = b.list(b.engine().number(5), b.text("t"));
+                b.compile(0, "{{@index}}{{@first}}[{{../this}}]{{this}}{{> c}}");
+                b.compile(1, pair[0]);
+                b.compile(2, "({{@index}})");
+                b.engine().render(0, list);
+            };
+            Refusal.due(pair[0], before, e -> e.render(1, 2), pair[1]);
+        }
     }
 
     private static void longRenderChangesNothing() {

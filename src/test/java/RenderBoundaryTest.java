@@ -22,6 +22,7 @@ public final class RenderBoundaryTest {
         charactersOfTheResult();
         charactersOfAShorterResult();
         countsThatThereAre();
+        countsOfDataAndLine();
         countsOfTheLastRender();
         countOfTags();
         countOfTemplates();
@@ -390,6 +391,22 @@ public final class RenderBoundaryTest {
         Bench.due("count(0) is the first", () -> b.engine().count(0), 15);
     }
 
+    private static void countsOfDataAndLine() {
+        Bench.sentence("0: DATA; 1: characters in THE LINE");
+        Bench b = new Bench();
+        for (int made = 0; made <= 60; made++) {
+            Bench.due("DATA", () -> b.engine().count(0), made);
+            Bench.answerOf(() -> b.engine().number(0));
+        }
+        Bench.due("DATA after a 61st", () -> b.engine().count(0), 60);
+        Bench c = new Bench();
+        for (int typed = 0; typed <= 200; typed++) {
+            Bench.due("THE LINE", () -> c.engine().count(1), typed);
+            Bench.answerOf(() -> c.engine().type(0));
+        }
+        Bench.due("THE LINE after a 201st", () -> c.engine().count(1), 200);
+    }
+
     private static void countsOfTheLastRender() {
         Bench.sentence("3: the length of what was rendered last (0 before)");
         Bench b = new Bench();
@@ -457,7 +474,8 @@ public final class RenderBoundaryTest {
         b.compile(0, "a");
         Bench.Call[] fine = {() -> b.engine().type(0), () -> b.engine().text(), () -> b.engine().list(), () -> b.engine().map(),
             () -> b.engine().number(0), () -> b.engine().add(2, 0), () -> b.engine().compile(3), () -> b.engine().errorAt(),
-            () -> b.engine().render(0, 0), () -> b.engine().at(0), () -> b.engine().kind(0), () -> b.engine().size(0), () -> b.engine().count(9), () -> b.put(3, "a", 0)};
+            () -> b.engine().render(0, 0), () -> b.engine().at(0), () -> b.engine().kind(0), () -> b.engine().size(0),
+            () -> b.engine().count(9), () -> b.put(3, "a", 0)};
         for (Bench.Call call : fine) {
             call.answer();
             Bench.due("after a call that threw nothing", () -> b.engine().count(5), threw + 1);
@@ -505,7 +523,7 @@ public final class RenderBoundaryTest {
     }
 
     private static void digitsInLists() {
-        Bench.sentence("a digit k in a LIST: its k-th, from 0; NOTHING if it is not so");
+        Bench.sentence("its k-th, from 0; NOTHING if it is not so");
         Bench b = new Bench();
         int root = b.engine().map();
         int list = b.engine().list();
