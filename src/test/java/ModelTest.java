@@ -2,9 +2,9 @@ import java.util.Random;
 
 /** Random runs of calls, the same each time, whose answers the Model tells. */
 public final class ModelTest {
-    private static final int RUNS = 1500;
-    /** More than the document promises: what is asked for early is asked for again when there is more of all. */
-    private static final int CALLS = 2000;
+    private static final int RUNS = 10000;
+    /** The document promises nothing of an object behind its 512th call. */
+    private static final int MOST_CALLS = 512;
     private static final String[] NAMES = {"a", "b", "c", "a", "b", "c", "up", "else"};
     private static final String[] NOISE = {"{", "}", "{{", "}}", "}}}", "{{{", " ", "\"", ".", "../", "#if ", "else", "1", "zzzzzzzzz", "X", "&<"};
 
@@ -25,10 +25,10 @@ public final class ModelTest {
         for (int seed = 0; seed < RUNS; seed++) {
             ModelTest run = new ModelTest(seed);
             run.makeData();
-            while (run.calls < CALLS && !run.wrong) {
+            run.makeTemplates();
+            while (run.calls < MOST_CALLS && !run.wrong) {
                 run.step();
             }
-            run.callEvery();
             renders += run.renders;
             Bench.due("run " + seed + (run.wrong ? run.told.toString() : ""), run.wrong, false);
             if (run.wrong) {
@@ -48,6 +48,9 @@ public final class ModelTest {
     }
 
     private void call(String name, int a, int b) {
+        if (calls == MOST_CALLS) {
+            return;
+        }
         calls++;
         String got = Bench.answerOf(() -> ask(name, a, b));
         String want = model.answer(name, a, b);
@@ -57,6 +60,11 @@ public final class ModelTest {
             wrong = true;
             told.append(", due is ").append(want);
         }
+    }
+
+    /** What the engine must answer, too; the Model is asked, so that it is no call of the engine. */
+    private int known(String name, int a) {
+        return Integer.parseInt(model.answer(name, a, 0));
     }
 
     private int ask(String name, int a, int b) {
@@ -102,8 +110,16 @@ public final class ModelTest {
         for (int i = 0; i < 6 + pick(8); i++) {
             makeOne();
         }
-        for (int i = 0; i < 70; i++) {
+        for (int i = 0; i < 35; i++) {
             hold();
+        }
+    }
+
+    /** Most runs have every TEMPLATE early: without them there is little to see of partials. */
+    private void makeTemplates() {
+        for (int k = pick(6) == 0 ? pick(4) : 0; k < 4; k++) {
+            type(template(1 + pick(2)));
+            call("compile", k, 0);
         }
     }
 
@@ -129,13 +145,13 @@ public final class ModelTest {
     }
 
     private int someData() {
-        int made = engine.count(0);
+        int made = known("count", 0);
         return pick(30) == 0 ? pick(70) - 2 : made == 0 ? 0 : pick(made);
     }
 
     private void hold() {
         int whole = someData();
-        boolean isMap = whole >= 0 && whole < engine.count(0) && engine.kind(whole) == 3;
+        boolean isMap = whole >= 0 && whole < known("count", 0) && known("kind", whole) == 3;
         if (isMap) {
             type(pick(NAMES));
         }
@@ -143,7 +159,7 @@ public final class ModelTest {
     }
 
     private void step() {
-        switch (pick(12)) {
+        switch (pick(16)) {
             case 0:
                 makeOne();
                 break;
@@ -152,13 +168,12 @@ public final class ModelTest {
                 hold();
                 break;
             case 3:
-            case 4:
-                String text = template(0);
-                type(text.length() > 200 - engine.count(1) && pick(4) > 0 ? "{{> " + pick("a", "b", "c", "d") + "}}" : text);
+                String text = template(pick(2));
+                type(text.length() > 200 - known("count", 1) && pick(4) > 0 ? "{{> " + pick("a", "b", "c", "d") + "}}" : text);
                 call("compile", pick(40) == 0 ? pick(9) - 3 : pick(4), 0);
                 call("errorAt", 0, 0);
                 break;
-            case 5:
+            case 4:
                 callEvery();
                 break;
             default:
@@ -179,10 +194,12 @@ public final class ModelTest {
     }
 
     private void compareRendered() {
-        int length = engine.count(3);
-        for (int i = Math.max(-1, length - 10); i <= length; i++) {
+        int length = known("count", 3);
+        for (int i = Math.max(-1, length - 3); i <= length; i++) {
             call("at", i, 0);
         }
+        call("at", pick(length + 1), 0);
+        call("at", pick(length + 1), 0);
     }
 
     private String template(int depth) {
